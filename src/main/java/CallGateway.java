@@ -423,9 +423,11 @@ public final class CallGateway {
         if (!to.isBrokenBy(canary.answer)) {
             return enter(from, CANARY, to.cost, canary.number);
         }
-        enter(from, FAULT, 0, NO_CANARY);
-        addFault(to, canary);
-        return FAULT;
+        canary.faults++;
+        if (canary.faults >= canary.limit) {
+            endAndUndo(to, canary);
+        }
+        return enter(from, FAULT, 0, NO_CANARY);
     }
 
     private char enter(Caller from, char kind, int cost, int canary) {
@@ -434,13 +436,6 @@ public final class CallGateway {
         from.bill += added;
         log.add(new Entry(from, kind, cost, added, canary));
         return kind;
-    }
-
-    private void addFault(Route route, Canary canary) {
-        canary.faults++;
-        if (canary.faults >= canary.limit) {
-            endAndUndo(route, canary);
-        }
     }
 
     private int endAndUndo(Route route, Canary canary) {

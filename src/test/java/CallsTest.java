@@ -10,6 +10,7 @@ public final class CallsTest {
         pass();
         passRefuses();
         callsCountsAllEntries();
+        callsCountsAsManyAsAnObjectCanGet();
         count();
         isUndone();
         callsBeyondTheLogThrowNothing();
@@ -163,6 +164,18 @@ public final class CallsTest {
         x.begin(0, 99, 100, 1);
         x.call(1, 1, 0);
         Check.due(5, () -> x.calls());
+    }
+
+    /** A plan and a caller, then calls, and two looks: 512 calls of the object in all. */
+    private static void callsCountsAsManyAsAnObjectCanGet() {
+        CallGateway x = new CallGateway();
+        x.addPlan(1, 1, 1);
+        x.addCaller(0);
+        for (int i = 0; i < 508; i++) {
+            x.call(0, 0, 0);
+        }
+        Check.due(508, () -> x.calls());
+        Check.due(508, () -> x.count(0, 'n'));
     }
 
     private static void count() {

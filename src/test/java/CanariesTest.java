@@ -9,6 +9,7 @@ public final class CanariesTest {
         promotedCallsStay();
         takeBack();
         takeBackUndoesTheCallsOfThatCanaryAlone();
+        takeBackLeavesAllOtherKinds();
         takeBackReachesAllCallers();
         takeBackGivesToTheBurstThen();
         takeBackTakesOffWhatWasAddedThen();
@@ -167,6 +168,26 @@ public final class CanariesTest {
         Check.due(1, () -> x.takeBack(1));
         Check.due(20, () -> x.tokens(0));
         Check.due(0L, () -> x.bill(0));
+    }
+
+    private static void takeBackLeavesAllOtherKinds() {
+        CallGateway x = gateway();
+        x.call(0, 1, 0);
+        x.call(0, 9, 0);
+        for (int canary = 0; canary < 5; canary++) {
+            x.begin(0, 99, 50, 9);
+            x.call(1, 1, 50);
+            x.call(1, 1, 0);
+            Check.due(0, () -> x.takeBack(0));
+        }
+        Check.due(18, () -> x.tokens(0));
+        Check.due(10, () -> x.tokens(1));
+        Check.due(20L, () -> x.bill(0));
+        Check.due(100L, () -> x.billByLog(1));
+        for (int i = 0; i < 12; i++) {
+            int call = i;
+            Check.due(false, () -> x.isUndone(call));
+        }
     }
 
     private static void takeBackReachesAllCallers() {

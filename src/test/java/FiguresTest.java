@@ -6,6 +6,7 @@ public final class FiguresTest {
         canaryShare();
         canaryShareIsAFloat();
         meanCost();
+        meanCostFromTheFirstCallOn();
         Check.end();
     }
 
@@ -103,5 +104,15 @@ public final class FiguresTest {
         Check.due(26.0 / 7.0, () -> x.meanCost());
         x.takeBack(1);
         Check.due(2.0, () -> x.meanCost());
+    }
+
+    private static void meanCostFromTheFirstCallOn() {
+        CallGateway x = gateway();
+        x.addRoute(3, 1, 0, 99);
+        x.addCaller(0);
+        x.call(0, 3, 0);
+        Check.due(1.0, () -> x.meanCost());
+        x.call(0, 2, 0);
+        Check.due(3.0, () -> x.meanCost());
     }
 }

@@ -9,6 +9,7 @@ public final class PlansAndCallersTest {
         setPlanRefuses();
         tokens();
         ticksUntil();
+        ticksUntilAtTheLeastRate();
         ticksUntilNeedsTheBurst();
         bills();
         billsOfManyCalls();
@@ -148,6 +149,20 @@ public final class PlansAndCallersTest {
         Check.due('s', () -> x.call(0, 1, 0));
         x.setPlan(0, 1);
         Check.due(1, () -> x.ticksUntil(0, 0));
+    }
+
+    private static void ticksUntilAtTheLeastRate() {
+        CallGateway x = new CallGateway();
+        x.addRoute(0, 5, 0, 0);
+        x.addPlan(1, 6, 0);
+        x.addCaller(0);
+        x.call(0, 0, 0);
+        for (int i = 4; i >= 0; i--) {
+            int ticks = i;
+            Check.due(ticks, () -> x.ticksUntil(0, 0));
+            x.pass(1);
+        }
+        Check.due(0, () -> x.ticksUntil(0, 0));
     }
 
     private static void ticksUntilNeedsTheBurst() {
