@@ -1,18 +1,30 @@
-/** Promises 21 to 25: calls and ticks. */
+/** Promises 21 to 25: calls and ticks. Above each test stands the sentence that it holds. */
 public final class CallsTest {
+    private static final int LOWEST = Integer.MIN_VALUE;
+    private static final int HIGHEST = Integer.MAX_VALUE;
+    private static final int[] NO_CALLERS = {2, 3, 5, 6, 7, 256, 65536, HIGHEST, -1, -2, -6, LOWEST};
+
     public static void main(String[] args) {
-        callKindsInTheirOrder();
+        callReturnsItsKind();
         callTakesTokensAndBills();
         callOfTheKindFault();
         callComparesTheKeyWithTheShare();
-        callRefuses();
         callGoesToTheLongestRoute();
-        pass();
-        passRefuses();
-        callsCountsAllEntries();
+        callThrowsIfThereIsNoSuchCaller();
+        callThrowsIfItIsNoPath();
+        callThrowsIfTheKeyIsOutOfRange();
+        passReturnsHowManyTokensAllGot();
+        passOfManyTicksIsAsPassesOfOne();
+        passThrowsIfOutOfRange();
+        callsReturnsTheNumberOfEntries();
         callsCountsAsManyAsAnObjectCanGet();
-        count();
-        isUndone();
+        countReturnsTheNumberOfAKind();
+        countCountsCallsUndoneOrNot();
+        countThrowsIfThereIsNoSuchCaller();
+        countThrowsIfThereIsNoSuchKind();
+        isUndoneReturnsWhetherItIs();
+        isUndoneTakesTheIndexOfTheEntry();
+        isUndoneThrowsIfThereIsNoSuchCall();
         callsBeyondTheLogThrowNothing();
         Check.end();
     }
@@ -28,7 +40,8 @@ public final class CallsTest {
         return x;
     }
 
-    private static void callKindsInTheirOrder() {
+    /** Promise 21: "Returns its kind, 'n', 'l', 's', 'c' or 'f'." */
+    private static void callReturnsItsKind() {
         CallGateway x = gateway();
         x.begin(1, 99, 100, 9);
         Check.due('f', () -> x.call(0, 12, 0));
@@ -45,6 +58,8 @@ public final class CallsTest {
         Check.due('s', () -> x.call(0, 1, 0));
         Check.due('l', () -> x.call(0, 1, 0));
         Check.due('n', () -> x.call(0, 2, 0));
+        x.setContract(1, 0, 99);
+        Check.due('c', () -> x.call(1, 12, 0));
     }
 
     private static void callTakesTokensAndBills() {
@@ -95,23 +110,6 @@ public final class CallsTest {
         Check.due('c', () -> x.call(1, 1, 99));
     }
 
-    private static void callRefuses() {
-        CallGateway x = gateway();
-        Check.due(Check.IOOBE, () -> x.call(2, 1, 0));
-        Check.due(Check.IOOBE, () -> x.call(-1, 1, 0));
-        Check.due(Check.IOOBE, () -> x.call(6, 10, 100));
-        Check.due(Check.IAE, () -> x.call(0, 10, 0));
-        Check.due(Check.IAE, () -> x.call(0, -1, 0));
-        Check.due(Check.IAE, () -> x.call(0, 10000, 0));
-        Check.due(Check.IAE, () -> x.call(0, 11111, 0));
-        Check.due(Check.IAE, () -> x.call(0, 1, -1));
-        Check.due(Check.IAE, () -> x.call(0, 1, 100));
-        Check.due(Check.IAE, () -> x.call(0, 2, 100));
-        Check.due(0, () -> x.calls());
-        Check.due('s', () -> x.call(0, 1, 99));
-        Check.due('n', () -> x.call(0, 9999, 99));
-    }
-
     private static void callGoesToTheLongestRoute() {
         CallGateway x = gateway();
         x.call(0, 1299, 0);
@@ -120,12 +118,52 @@ public final class CallsTest {
         Check.due(7, () -> x.tokens(1));
     }
 
-    private static void pass() {
+    /** Promise 21: "Throws IndexOutOfBoundsException if there is no such caller" */
+    private static void callThrowsIfThereIsNoSuchCaller() {
+        CallGateway x = gateway();
+        for (int caller : NO_CALLERS) {
+            Check.due(Check.IOOBE, () -> x.call(caller, 1, 0));
+            Check.due(Check.IOOBE, () -> x.call(caller, 10, 0));
+            Check.due(Check.IOOBE, () -> x.call(caller, 1, 100));
+        }
+        Check.due(0, () -> x.calls());
+        Check.due('s', () -> x.call(1, 1, 0));
+    }
+
+    /** Promise 21: "Throws IllegalArgumentException if it is no path, or the key is out of range": the path. */
+    private static void callThrowsIfItIsNoPath() {
+        CallGateway x = gateway();
+        x.addRoute(0, 1, 0, 9);
+        for (int path : new int[] {-1, -12, 10, 20, 101, 110, 1001, 1210, 10000, 11111, 65537, HIGHEST, LOWEST}) {
+            Check.due(Check.IAE, () -> x.call(0, path, 0));
+        }
+        Check.due(0, () -> x.calls());
+        Check.due('s', () -> x.call(0, 9999, 0));
+        Check.due('s', () -> x.call(0, 0, 0));
+    }
+
+    /** Promise 21: "the key, 0 to 99", and the same sentence, whatever the path goes to and whatever the tokens are. */
+    private static void callThrowsIfTheKeyIsOutOfRange() {
+        CallGateway x = gateway();
+        x.call(0, 12, 0);
+        for (int key : new int[] {-1, -100, 100, 101, 256, 65536, HIGHEST, LOWEST}) {
+            Check.due(Check.IAE, () -> x.call(0, 1, key));
+            Check.due(Check.IAE, () -> x.call(0, 12, key));
+            Check.due(Check.IAE, () -> x.call(0, 2, key));
+        }
+        Check.due(1, () -> x.calls());
+        Check.due('s', () -> x.call(0, 1, 99));
+        Check.due('n', () -> x.call(0, 9999, 99));
+    }
+
+    /** Promise 22: "Returns how many tokens all callers got.": none without callers, none when all are full. */
+    private static void passReturnsHowManyTokensAllGot() {
         CallGateway x = new CallGateway();
         Check.due(0, () -> x.pass(100));
         x.addRoute(1, 5, 0, 0);
         x.addPlan(1, 100, 0);
         x.addPlan(20, 7, 0);
+        Check.due(0, () -> x.pass(1));
         x.addCaller(0);
         x.addCaller(1);
         Check.due(0, () -> x.pass(1));
@@ -142,28 +180,74 @@ public final class CallsTest {
         Check.due(0, () -> x.pass(100));
     }
 
-    private static void passRefuses() {
-        CallGateway x = gateway();
-        x.call(0, 12, 0);
-        Check.due(Check.IAE, () -> x.pass(0));
-        Check.due(Check.IAE, () -> x.pass(-1));
-        Check.due(Check.IAE, () -> x.pass(101));
-        Check.due(Check.IAE, () -> x.pass(Integer.MAX_VALUE));
-        Check.due(4, () -> x.tokens(0));
-        Check.due(5, () -> x.pass(100));
+    /** Promise 22: "Lets ticks pass.": many at once as one after the other, up to the most tokens that all can get. */
+    private static void passOfManyTicksIsAsPassesOfOne() {
+        for (int ticks : new int[] {1, 2, 3, 4, 5, 33, 99, 100}) {
+            CallGateway atOnce = emptied();
+            CallGateway oneByOne = emptied();
+            int got = 0;
+            for (int tick = 0; tick < ticks; tick++) {
+                got += (Integer) Check.answerOf(() -> oneByOne.pass(1));
+            }
+            int sum = got;
+            Check.due(sum, () -> atOnce.pass(ticks));
+            for (int i = 0; i < 6; i++) {
+                int caller = i;
+                Check.due(Check.answerOf(() -> oneByOne.tokens(caller)), () -> atOnce.tokens(caller));
+            }
+        }
+        CallGateway most = emptied();
+        Check.due(2 * (100 + 100 + 5), () -> most.pass(100));
     }
 
-    private static void callsCountsAllEntries() {
+    /** Six callers without tokens, two of each plan. */
+    private static CallGateway emptied() {
+        CallGateway x = new CallGateway();
+        x.addRoute(0, 5, 0, 0);
+        x.addPlan(1, 100, 0);
+        x.addPlan(20, 100, 0);
+        x.addPlan(3, 5, 0);
+        for (int caller = 0; caller < 6; caller++) {
+            x.addCaller(caller % 3);
+            for (int i = 0; i < 20; i++) {
+                x.call(caller, 0, 0);
+            }
+        }
+        return x;
+    }
+
+    /** Promise 22: "the number of ticks, 1 to 100", "Throws IllegalArgumentException if the number is out of range" */
+    private static void passThrowsIfOutOfRange() {
+        CallGateway x = gateway();
+        x.call(0, 12, 0);
+        for (int ticks : new int[] {0, -1, -100, 101, 256, 257, 65537, 1 << 30, HIGHEST, LOWEST}) {
+            Check.due(Check.IAE, () -> x.pass(ticks));
+            Check.due(Check.IAE, () -> new CallGateway().pass(ticks));
+        }
+        Check.due(4, () -> x.tokens(0));
+        Check.due(3, () -> x.pass(1));
+        Check.due(2, () -> x.pass(100));
+    }
+
+    /** Promise 23: "Returns the number of calls.", "Returns the number of entries of the log.": of all kinds. */
+    private static void callsReturnsTheNumberOfEntries() {
         CallGateway x = gateway();
         Check.due(0, () -> x.calls());
         x.call(0, 1, 0);
+        Check.due(1, () -> x.calls());
         x.call(0, 2, 0);
         x.call(1, 12, 0);
         x.call(1, 12, 0);
         Check.due(4, () -> x.calls());
-        x.begin(0, 99, 100, 1);
+        x.begin(0, 99, 100, 2);
         x.call(1, 1, 0);
-        Check.due(5, () -> x.calls());
+        x.setContract(0, 99, 99);
+        x.call(1, 1, 0);
+        Check.due(6, () -> x.calls());
+        x.takeBack(0);
+        x.pass(100);
+        Check.due(Check.IAE, () -> x.call(0, 1, 100));
+        Check.due(6, () -> x.calls());
     }
 
     /** A plan and a caller, then calls, and two looks: 512 calls of the object in all. */
@@ -178,7 +262,8 @@ public final class CallsTest {
         Check.due(508, () -> x.count(0, 'n'));
     }
 
-    private static void count() {
+    /** Calls of caller 0: 'n' twice, 'l' once, 's' twice, 'c' once, 'f' three times; of caller 1: 'c' once. */
+    private static CallGateway withAllKinds() {
         CallGateway x = gateway();
         x.call(0, 2, 0);
         x.call(0, 2, 0);
@@ -193,48 +278,118 @@ public final class CallsTest {
         x.call(0, 1, 0);
         x.call(0, 1, 1);
         x.call(0, 1, 2);
-        dueCounts(x);
-        x.takeBack(0);
-        dueCounts(x);
-        Check.due(Check.IAE, () -> x.count(0, 'x'));
-        Check.due(Check.IAE, () -> x.count(0, 'b'));
-        Check.due(Check.IAE, () -> x.count(0, 'C'));
-        Check.due(Check.IAE, () -> x.count(0, (char) 0));
-        Check.due(Check.IAE, () -> x.count(0, (char) 65535));
-        Check.due(Check.IOOBE, () -> x.count(2, 's'));
-        Check.due(Check.IOOBE, () -> x.count(-1, 'x'));
-        Check.due(Check.IOOBE, () -> x.count(6, 's'));
+        return x;
     }
 
-    private static void dueCounts(CallGateway x) {
-        Check.due(2, () -> x.count(0, 'n'));
-        Check.due(1, () -> x.count(0, 'l'));
-        Check.due(2, () -> x.count(0, 's'));
-        Check.due(1, () -> x.count(0, 'c'));
-        Check.due(3, () -> x.count(0, 'f'));
-        Check.due(0, () -> x.count(1, 'n'));
-        Check.due(1, () -> x.count(1, 'c'));
+    private static void dueCounts(CallGateway x, int caller, int... want) {
+        char[] kinds = {'n', 'l', 's', 'c', 'f'};
+        for (int i = 0; i < 5; i++) {
+            char kind = kinds[i];
+            Check.due(want[i], () -> x.count(caller, kind));
+        }
     }
 
-    private static void isUndone() {
+    /** Promise 24: "Returns the number of calls of a kind of a caller." */
+    private static void countReturnsTheNumberOfAKind() {
+        dueCounts(gateway(), 0, 0, 0, 0, 0, 0);
+        CallGateway x = withAllKinds();
+        dueCounts(x, 0, 2, 1, 2, 1, 3);
+        dueCounts(x, 1, 0, 0, 0, 1, 0);
+    }
+
+    /** Promise 24: "Returns the number of calls, undone or not." */
+    private static void countCountsCallsUndoneOrNot() {
+        CallGateway x = withAllKinds();
+        Check.due(2, () -> x.takeBack(0));
+        dueCounts(x, 0, 2, 1, 2, 1, 3);
+        dueCounts(x, 1, 0, 0, 0, 1, 0);
+    }
+
+    /** Promise 24: "Throws IndexOutOfBoundsException if there is no such caller" */
+    private static void countThrowsIfThereIsNoSuchCaller() {
+        CallGateway x = withAllKinds();
+        for (int caller : NO_CALLERS) {
+            dueThrows(x, caller, 's', Check.IOOBE);
+            dueThrows(x, caller, 'x', Check.IOOBE);
+        }
+    }
+
+    /** Promise 24: "the kind, 'n', 'l', 's', 'c' or 'f'", "Throws IllegalArgumentException if there is no such kind" */
+    private static void countThrowsIfThereIsNoSuchKind() {
+        CallGateway x = withAllKinds();
+        int throwing = 0;
+        for (int sign = 0; sign < 128; sign++) {
+            if ("nlscf".indexOf(sign) < 0) {
+                dueThrows(x, 0, (char) sign, Check.IAE);
+                throwing++;
+            }
+        }
+        Check.same("signs that are no kind", 123, throwing);
+        for (char kind : "nlscf".toCharArray()) {
+            dueThrows(x, 0, (char) (kind + 256), Check.IAE);
+            dueThrows(x, 1, (char) (kind - 1), Check.IAE);
+        }
+        dueThrows(x, 0, (char) 65535, Check.IAE);
+    }
+
+    private static void dueThrows(CallGateway x, int caller, char kind, String exception) {
+        Check.due(exception, () -> x.count(caller, kind));
+    }
+
+    /** Promise 25: "Returns whether it is.": of each kind, before and after. */
+    private static void isUndoneReturnsWhetherItIs() {
         CallGateway x = gateway();
-        Check.due(Check.IOOBE, () -> x.isUndone(0));
         x.begin(0, 150, 50, 1);
         x.call(0, 1, 0);
         x.call(0, 1, 50);
         x.call(0, 2, 0);
-        Check.due(false, () -> x.isUndone(0));
+        x.call(0, 12, 0);
+        x.call(0, 12, 0);
+        for (int i = 0; i < 5; i++) {
+            int call = i;
+            Check.due(false, () -> x.isUndone(call));
+        }
         x.setContract(0, 0, 0);
-        x.call(0, 1, 0);
+        Check.due('f', () -> x.call(1, 1, 0));
         Check.due(true, () -> x.isUndone(0));
-        Check.due(false, () -> x.isUndone(1));
-        Check.due(false, () -> x.isUndone(2));
-        Check.due(false, () -> x.isUndone(3));
-        Check.due(Check.IOOBE, () -> x.isUndone(4));
-        Check.due(Check.IOOBE, () -> x.isUndone(-1));
-        Check.due(Check.IOOBE, () -> x.isUndone(512));
-        Check.due(Check.IOOBE, () -> x.isUndone(Integer.MAX_VALUE));
-        Check.due(Check.IOOBE, () -> x.isUndone(Integer.MIN_VALUE));
+        for (int i = 1; i < 6; i++) {
+            int call = i;
+            Check.due(false, () -> x.isUndone(call));
+        }
+    }
+
+    /** Promise 25: "the index of its entry, 0 for the first one": in the order of the calls, of all callers. */
+    private static void isUndoneTakesTheIndexOfTheEntry() {
+        CallGateway x = new CallGateway();
+        x.addRoute(1, 1, 0, 9);
+        x.addPlan(1, 100, 1);
+        x.addCaller(0);
+        x.addCaller(0);
+        x.begin(0, 5, 50, 1);
+        for (int i = 0; i < 100; i++) {
+            x.call(i % 2, 1, i % 3 == 0 ? 0 : 50);
+        }
+        x.takeBack(0);
+        for (int i = 0; i < 100; i++) {
+            int call = i;
+            Check.due(call % 3 == 0, () -> x.isUndone(call));
+        }
+    }
+
+    /** Promise 25: "Throws IndexOutOfBoundsException if there is no such call": none, one, and more of them. */
+    private static void isUndoneThrowsIfThereIsNoSuchCall() {
+        CallGateway x = gateway();
+        for (int calls = 0; calls < 10; calls++) {
+            int number = calls;
+            Check.due(Check.IOOBE, () -> x.isUndone(number));
+            for (int call : new int[] {number + 1, 10, 256, 511, 512, 513, 65536, HIGHEST, -1, -512, LOWEST}) {
+                Check.due(Check.IOOBE, () -> x.isUndone(call));
+            }
+            x.call(0, 9, 0);
+            Check.due(false, () -> x.isUndone(number));
+        }
+        Check.due(Check.IAE, () -> x.call(0, 9, 100));
+        Check.due(Check.IOOBE, () -> x.isUndone(10));
     }
 
     /** What these calls answer is free, but LANGUAGE.md wants that none throws by itself. */
