@@ -1,3 +1,4 @@
+import java.lang.reflect.Constructor;
 import java.lang.reflect.Field;
 import java.lang.reflect.Method;
 import java.lang.reflect.Modifier;
@@ -46,14 +47,33 @@ public final class FaceTest {
             Check.same(field.getName() + " is private", true, Modifier.isPrivate(field.getModifiers()));
         }
         for (Method method : program.getDeclaredMethods()) {
-            boolean bearsAName = Arrays.stream(FACE).anyMatch(line -> line.contains(" " + method.getName() + "("));
-            Check.same(method + " is private or the face's", Modifier.isPublic(method.getModifiers()), bearsAName);
+            Check.same(method + " is private or the face's", Modifier.isPublic(method.getModifiers()),
+                    bearsANameOfTheFace(method));
         }
         for (Class<?> inside : program.getDeclaredClasses()) {
             Check.same(inside + " is private and static", Modifier.PRIVATE | Modifier.STATIC,
                     inside.getModifiers() & (Modifier.PRIVATE | Modifier.STATIC));
+            dueClosed(inside);
         }
         Check.end();
+    }
+
+    /** LANGUAGE.md, rule 1, holds for the members of the classes inside too. */
+    private static void dueClosed(Class<?> inside) {
+        for (Field field : inside.getDeclaredFields()) {
+            Check.same(field + " is private", true, Modifier.isPrivate(field.getModifiers()));
+        }
+        for (Constructor<?> constructor : inside.getDeclaredConstructors()) {
+            Check.same(constructor + " is private", true, Modifier.isPrivate(constructor.getModifiers()));
+        }
+        for (Method method : inside.getDeclaredMethods()) {
+            Check.same(method + " is private", true, Modifier.isPrivate(method.getModifiers()));
+            Check.same(method + " bears a name of the face", false, bearsANameOfTheFace(method));
+        }
+    }
+
+    private static boolean bearsANameOfTheFace(Method method) {
+        return Arrays.stream(FACE).anyMatch(line -> line.contains(" " + method.getName() + "("));
     }
 
     private static String openMethodsOf(Class<?> program) {
